@@ -84,7 +84,7 @@ public final class QuayClock {
   }
 
   public int lot(int boat, int kind, int size, int boxes, int quality) {
-    if (saleWas || hall.lotCount >= MOST_LOTS) {
+    if (saleWas) {
       return NONE;
     }
     if (!isBelow(boat, BOATS) || !isBelow(kind, KINDS) || !isBelow(size, SIZES)) {
@@ -97,14 +97,13 @@ public final class QuayClock {
   }
 
   public int buyer(int town, int credit) {
-    if (hall.buyerCount >= MOST_BUYERS) {
-      return NONE;
-    }
     if (!isBelow(town, TOWNS) || !isWithin(credit, 0, MOST_CREDIT)) {
       return NONE;
     }
     int number = hall.admit(town, credit);
-    daySale.purses[number].open(credit);
+    if (number != NONE) {
+      daySale.purses[number].open(credit);
+    }
     return number;
   }
 
@@ -260,7 +259,7 @@ public final class QuayClock {
     return n >= least && n <= most;
   }
 
-  /** A text that was read: RULES, each with its E and its COND as operands and operators behind them. */
+  /** A text that was read: each E and COND of its RULES is operands with operators behind them. */
   private static final class Text {
     /** Tokens as numbers: words by their place in WORDS, then signs; an INT n is FIRST_INT + n. */
     static final int BID = 0;
@@ -287,7 +286,7 @@ public final class QuayClock {
 
     static final int MOST_RULES = 20;
     static final int MOST_TOKENS = 400;
-    /** Six parentheses with two values waiting in each, and those of the relation, 'and' and 'or'. */
+    /** No less than 3 for each of 6 open parentheses, 5 outside of them, and 1 more. */
     static final int MOST_WAITING = 32;
 
     int ruleCount;
@@ -316,7 +315,6 @@ public final class QuayClock {
       if (ruleCount < MOST_RULES) {
         ruleWord[ruleCount] = word;
         valueFrom[ruleCount] = codeLength;
-        valueEnd[ruleCount] = codeLength;
       }
     }
 
@@ -417,19 +415,19 @@ public final class QuayClock {
     private static final String WORDS =
         "bid     start   least   if      or      and     boat    kind    size    boxes   quality last    bought  wanted  credit  lot     ";
 
-    /** What a token is looked at as: a rule's first word, a UNIT's begin, or what follows a UNIT. */
+    /** Where the next token stands: first in a RULE, first in a UNIT, or behind a UNIT. */
     private static final int RULE_FIRST = 0;
     private static final int UNIT_FIRST = 1;
     private static final int UNIT_BEHIND = 2;
 
-    /** Which E of a rule the token is in: its own, a relation's left one, a relation's right one. */
+    /** Which E of a RULE it is in: its own, or the left or the right one of a REL. */
     private static final int VALUE = 0;
     private static final int LEFT = 1;
     private static final int RIGHT = 2;
 
     int length;
     int faultPlace = NONE;
-    /** What is read into: a text that no one has, in place of which the reader gets the old one. */
+    /** What is read into: a text of no one's, exchanged for the old one when it was read. */
     Text text = new Text();
     private final char[] tape = new char[MOST_BYTES];
     private int at;
@@ -471,7 +469,6 @@ public final class QuayClock {
       at = 0;
       tokenCount = 0;
       state = RULE_FIRST;
-      part = VALUE;
       openCount = 0;
       pendingCount = 0;
     }
@@ -573,7 +570,7 @@ public final class QuayClock {
       }
     }
 
-    /** An operator's left side is whole once a token of its rank or a lower one is behind its right. */
+    /** What waits has its right side whole once a token of no higher rank is behind that. */
     private void settle(int rank) {
       while (pendingCount > 0 && rank(pending[pendingCount - 1]) >= rank) {
         pendingCount--;
@@ -587,6 +584,7 @@ public final class QuayClock {
       }
     }
 
+    /** ')', 'if' and ';' stand with 'or': they settle all that waits behind the latest '('. */
     private static int rank(int token) {
       switch (token) {
         case Text.TIMES:
@@ -829,15 +827,15 @@ public final class QuayClock {
 
     int startOf(int lot) {
       setLotVariables(lot);
-      return hold(text.valueOrElse(Text.START, variables, USUAL_START), GREATEST_START);
+      return heldTo(text.valueOrElse(Text.START, variables, USUAL_START), GREATEST_START);
     }
 
     int leastOf(int lot, int start) {
       setLotVariables(lot);
-      return hold(text.valueOrElse(Text.LEAST, variables, 1), start);
+      return heldTo(text.valueOrElse(Text.LEAST, variables, 1), start);
     }
 
-    private static int hold(int value, int most) {
+    private static int heldTo(int value, int most) {
       return Math.max(1, Math.min(value, most));
     }
 
@@ -934,7 +932,7 @@ public final class QuayClock {
       return lot == NONE;
     }
 
-    /** Below START nothing happens till the price is at LEAST or at some LIMIT. */
+    /** How long nothing can happen: till the price is at LEAST or at the greatest LIMIT. */
     int quietSeconds(int buyerCount) {
       int stop = least;
       for (int b = 0; b < buyerCount && b < MOST_BUYERS; b++) {
@@ -978,7 +976,7 @@ public final class QuayClock {
       }
     }
 
-    /** Each turn is a SECOND in which a LOT is SOLD or WITHDRAWN; those in between are passed over. */
+    /** A turn for each SECOND that ends some LOT's sale; the quiet ones between are passed over. */
     void hold(int absentBuyer) {
       begin(absentBuyer);
       for (int turn = 0; turn < hall.lotCount && settledLots < hall.lotCount; turn++) {
@@ -1023,7 +1021,7 @@ public final class QuayClock {
       }
     }
 
-    /** A LIMIT changes only by what its BUYER buys, so the others are kept from second to second. */
+    /** A LIMIT changes only by what its BUYER buys, so the others are kept as they are. */
     private void refreshLimits() {
       for (int c = 0; c < CLOCKS; c++) {
         Clock clock = clocks[c];
@@ -1043,7 +1041,9 @@ public final class QuayClock {
         }
       }
       for (int c = 0; c < CLOCKS; c++) {
-        clocks[c].price -= quiet;
+        if (!clocks[c].isEmpty()) {
+          clocks[c].price -= quiet;
+        }
       }
       second += quiet;
     }

@@ -107,6 +107,21 @@ public final class BidTest {
     Check.due("LEAST of lot 0", x.told(0, 5), 8);
     Check.due("START of lot 1", x.told(1, 4), 101);
     Check.due("LEAST of lot 1", x.told(1, 5), 6);
+    QuayClock y = hallWithALot();
+    Check.text(y, 0, "bid 30;");
+    Check.text(y, -1, "start 50+bought+wanted+credit;");
+    Check.due("limit ahead of the sale", y.limit(0, 0), 30);
+    y.sale();
+    Check.due("START, whatever was asked ahead", y.told(0, 4), 50);
+    Check.due("bought by then", y.bought(0, 13), 1);
+    Check.due("limit behind the sale", y.limit(0, 0), 30);
+    y.without(0);
+    Check.due("rule behind the sale", y.rule(0, 0), 0);
+    y.day();
+    y.lot(0, 3, 0, 1, 0);
+    y.limit(0, 0);
+    y.sale();
+    Check.due("START on the next day", y.told(0, 4), 50);
   }
 
   private static void wantsAndCredit() {

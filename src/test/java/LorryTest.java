@@ -77,6 +77,18 @@ public final class LorryTest {
   }
 
   private static void fewestLots() {
+    QuayClock w = sold(5, 4, 6);
+    w.lorry(0, 10, 99999);
+    loaded(w, 0, 10, 1, 2);
+    w.lorry(0, 5, 99999);
+    loaded(w, 1, 5, 0);
+    QuayClock v = sold(2, 1, 1);
+    v.lorry(0, 1, 99999);
+    loaded(v, 0, 1, 1);
+    v.lorry(0, 2, 99999);
+    loaded(v, 1, 2, 0);
+    v.lorry(0, 2, 99999);
+    loaded(v, 2, 1, 2);
     QuayClock x = sold(2, 3, 5, 10);
     x.lorry(0, 10, 99999);
     loaded(x, 0, 10, 3);

@@ -13,6 +13,8 @@ public final class SaleTest {
     greatestLimit();
     clocksFillByNumbers();
     changedLimits();
+    limitsOfLaterLots();
+    sameSecondLesserClock();
     lasts();
     days();
     wrongNumbers();
@@ -260,6 +262,46 @@ public final class SaleTest {
     Check.due("buyer of 1", x.told(1, 0), -1);
     Check.due("credit left", x.bought(0, 1), 0);
     Check.due("lots", x.bought(0, 2), 2);
+  }
+
+  /** A lot that comes on a clock later meets the limits for itself, also of who bought nothing. */
+  private static void limitsOfLaterLots() {
+    QuayClock x = new QuayClock();
+    x.buyer(0, 1000);
+    x.buyer(1, 1000);
+    x.want(0, 0, 50);
+    x.want(1, 0, 50);
+    Check.text(x, 0, "bid 70 if lot==0;");
+    Check.text(x, 1, "bid 90 if lot==3; bid 20 if lot==1;");
+    for (int i = 0; i < 4; i++) {
+      x.lot(0, 0, 0, 1, 0);
+    }
+    Check.due("sale()", x.sale(), 99);
+    int[][] due = {{0, 70, 30}, {1, 20, 80}, {-1, 1, 99}, {1, 90, 41}};
+    for (int lot = 0; lot < 4; lot++) {
+      for (int what = 0; what < 3; what++) {
+        Check.due("told(" + lot + ", " + what + ")", x.told(lot, what), due[lot][what]);
+      }
+    }
+  }
+
+  /** Lots 1 and 3 go in one second: clock 0 has lot 3 by then, clock 1 lot 1. */
+  private static void sameSecondLesserClock() {
+    QuayClock x = new QuayClock();
+    x.buyer(0, 1000);
+    x.buyer(0, 1000);
+    x.want(0, 0, 50);
+    x.want(1, 0, 50);
+    Check.text(x, 0, "bid 100 if lot==0; bid 91 if lot==1;");
+    Check.text(x, 1, "bid 92 if lot==3;");
+    for (int i = 0; i < 4; i++) {
+      x.lot(0, 0, 0, 1, 0);
+    }
+    x.sale();
+    Check.due("second of 1", x.told(1, 2), 9);
+    Check.due("second of 3", x.told(3, 2), 9);
+    x.day();
+    Check.due("last(0)", x.last(0), 92);
   }
 
   private static void lasts() {

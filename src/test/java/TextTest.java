@@ -9,6 +9,7 @@ public final class TextTest {
     roomForRules();
     roomForParentheses();
     faultChangesNothing();
+    oneAfterAnother();
     Check.end();
   }
 
@@ -140,6 +141,8 @@ public final class TextTest {
     Check.fault("bid 1 if 1 and 2<3;", 1, 11);
     Check.fault("bid 1 if 1<2 and 2+3*4<=5 or lot==boat and 1!=(2);", 0, -1);
     Check.fault("bid 1 if 1<(2 and 3);", 1, 14);
+    Check.fault("b", 1, 0);
+    Check.fault("(", 1, 0);
     Check.fault("start 1;least 2;bid 3;bid 4", 1, 27);
   }
 
@@ -211,5 +214,31 @@ public final class TextTest {
     Check.due("limit(0, 0) of the new text", x.limit(0, 0), 40);
     x.sale();
     Check.due("told(0, 4) by the old text", x.told(0, 4), 5);
+  }
+
+  /** Nothing of a text that was read, or of one that had a fault, is left for the next one. */
+  private static void oneAfterAnother() {
+    QuayClock x = new QuayClock();
+    x.buyer(0, 1000);
+    x.want(0, 0, 10);
+    x.lot(0, 0, 0, 1, 0);
+    String half = "bid 2+3*(4+(5*6";
+    String full = "bid 1" + "+1".repeat(190) + ";";
+    for (int i = 0; i < 20; i++) {
+      Check.put(x, half);
+      x.read(0);
+    }
+    for (int i = 0; i < 4; i++) {
+      Check.put(x, half);
+      Check.due("read(0) of a half", x.read(0), 1);
+      Check.due("place() of a half", x.place(), half.length());
+      Check.put(x, "bid 1 if 2 < 3 and ;");
+      Check.due("read(0) of another half", x.read(0), 1);
+      Check.text(x, 0, full);
+      Check.due("limit(0, 0) of the full one", x.limit(0, 0), 191);
+      Check.text(x, 0, "bid 2 if 1==2;".repeat(19) + "bid 8-" + i + "*2;");
+      Check.due("limit(0, 0) of the next", x.limit(0, 0), 8 - 2 * i);
+      Check.due("rule(0, 0) of the next", x.rule(0, 0), 19);
+    }
   }
 }
