@@ -3,6 +3,8 @@ public final class BidTest {
   public static void main(String[] args) {
     values();
     conditions();
+    mixedRelations();
+    sumsInRelations();
     variables();
     hallVariables();
     wantsAndCredit();
@@ -78,6 +80,44 @@ public final class BidTest {
     condition("1+1==2*1 and (3-1)*2==4", true);
     condition("2<1+2", true);
     condition("1+2<2", false);
+  }
+
+  /** Each relation joined to each other one, by 'and' and by 'or', whichever of the two holds. */
+  private static void mixedRelations() {
+    String[] holds = {"1==1", "1!=2", "1<2", "1<=1"};
+    String[] fails = {"1==2", "1!=1", "2<2", "2<=1"};
+    for (int i = 0; i < 4; i++) {
+      for (int j = 0; j < 4; j++) {
+        condition(holds[i] + " and " + holds[j], true);
+        condition(holds[i] + " and " + fails[j], false);
+        condition(fails[i] + " and " + holds[j], false);
+        condition(fails[i] + " and " + fails[j], false);
+        condition(holds[i] + " or " + holds[j], true);
+        condition(holds[i] + " or " + fails[j], true);
+        condition(fails[i] + " or " + holds[j], true);
+        condition(fails[i] + " or " + fails[j], false);
+      }
+    }
+  }
+
+  private static void sumsInRelations() {
+    condition("3==1+2", true);
+    condition("1==1+2", false);
+    condition("3!=1+2", false);
+    condition("5<1+2", false);
+    condition("3<=1+2", true);
+    condition("4<=1+2", false);
+    condition("1==4-3", true);
+    condition("4!=4-3", true);
+    condition("1!=4-3", false);
+    condition("6==2*3", true);
+    condition("2==2*3", false);
+    condition("1+2==3", true);
+    condition("1+2!=3", false);
+    condition("2*3<6", false);
+    condition("4-3<=1", true);
+    condition("1+2*3==3*2+1 and 5-2-1!=5-(2-1)", true);
+    condition("1==2 or 5<1+2 and 1==1", false);
   }
 
   private static void variables() {
