@@ -14,6 +14,7 @@ public final class SaleBoundsTest {
     stopsInTheNextSecond();
     limitAsItIsNow();
     limitRisesByWhatIsBought();
+    limitAsIfFirst();
     fewerLotsThanClocks();
     firstThatNoneHad();
     allClocksAtOnce();
@@ -274,6 +275,32 @@ public final class SaleBoundsTest {
     went(x, 0, 0, 40, 10, 0);
     went(x, 1, 0, 39, 11, 1);
     went(x, 2, 1, 39, 11, 2);
+  }
+
+  // Promise 13: 'ahead of THE SALE: as if it were the first one'
+  private static void limitAsIfFirst() {
+    QuayClock x = new QuayClock();
+    x.buyer(0, 100);
+    x.want(0, 0, 10);
+    Check.text(x, 0, "bid 9 if bought==0;bid 5;");
+    for (int day = 0; day < 2; day++) {
+      for (int lot = 0; lot < 3; lot++) {
+        x.lot(0, 0, 0, 10, 0);
+      }
+      for (int lot = 0; lot < 3; lot++) {
+        Check.due("limit(0, " + lot + ") ahead of the sale", x.limit(0, lot), 9);
+        Check.due("rule(0, " + lot + ") ahead of the sale", x.rule(0, lot), 0);
+      }
+      x.sale();
+      for (int lot = 0; lot < 3; lot++) {
+        Check.due("limit(0, " + lot + ") behind the sale", x.limit(0, lot), 0);
+        Check.due("rule(0, " + lot + ") behind the sale", x.rule(0, lot), 1);
+      }
+      x.want(0, 0, 20);
+      Check.due("limit(0, 0) by the CREDIT that is left", x.limit(0, 0), 1);
+      x.want(0, 0, 10);
+      x.day();
+    }
   }
 
   // 'each CLOCK, by numbers, that has no LOT'
